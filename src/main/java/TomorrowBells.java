@@ -547,7 +547,7 @@ public final class TomorrowBells {
         }
     }
 
-    /** What a text here. */
+    /** What a text told. */
     private static final class Town {
         int bells;
         final int[] kind = new int[MOST_BELLS];
@@ -750,7 +750,7 @@ public final class TomorrowBells {
             return set;
         }
 
-        /** How many more must do the deed till one more is met; above MOST_MORE: no number that may be here. */
+        /** How many more must do the deed till one more is met; above MOST_MORE: no number that may be told. */
         int gapAbove(int ofDeed, int people) {
             int least = MOST_MORE + 1;
             for (int i = 0; i < count; i++) {
@@ -889,7 +889,7 @@ public final class TomorrowBells {
             return kind;
         }
 
-        /** Behind a fault nothing that is read counts: the town that it goes into is never here. */
+        /** Behind a fault nothing that is read counts: the town that it goes into is never used. */
         private int readNumber(int least, int most) {
             skipBlanks();
             numberAt = at;
