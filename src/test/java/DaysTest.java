@@ -95,6 +95,12 @@ public final class DaysTest {
         TomorrowBells x = Due.town(TRUE_BELL + "n3 1 0;");
         Due.is("sure(0)", x.sure(0), 8);
         Due.is("sure(1)", x.sure(1), 54);
+        TomorrowBells y = Due.town("n5 1 0;");
+        Due.is("sure(0) of 5 alone", y.sure(0), 32);
+        Due.is("sure(1) of 5 alone", y.sure(1), 31);
+        TomorrowBells z = Due.town("n0 1 0;");
+        Due.is("sure(0) of 0 alone", z.sure(0), 1);
+        Due.is("sure(1) of 0 alone", z.sure(1), 62);
         Due.is("sure(2)", x.sure(2), Due.OUTSIDE);
         Due.is("sure(-1)", x.sure(-1), Due.OUTSIDE);
     }

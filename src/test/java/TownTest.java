@@ -7,6 +7,7 @@ public final class TownTest {
         newObject();
         feed();
         faults();
+        shorterBehindLonger();
         townBeginsAnew();
         faultLeavesAll();
         told();
@@ -125,6 +126,25 @@ public final class TownTest {
         read("h3 0;h 003", -14, 7);
         read("h0 0;h", -11, 6);
         read("h0 0;h0000 0;", -12, 6);
+        read("bc0 0;" + " ".repeat(244), 1, -1);
+        read(" ".repeat(244) + "bc0 0;", 1, -1);
+        read(" ".repeat(245) + "bc0 0", -11, 250);
+        read(" ".repeat(246) + "bc0 ", -11, 250);
+        read(" ".repeat(249) + "b", -11, 250);
+    }
+
+    /** A shorter text must not be read on into what a longer one left behind. */
+    private static void shorterBehindLonger() {
+        String[] parts = {"b", "bc", "bc0", "bc0 ", "bc0 0", "bc0 0;g", "bc0 0;g1 0 6 6"};
+        for (String part : parts) {
+            TomorrowBells x = Due.town("bc0 0;g1 0 6 6;h0 50;");
+            Due.feed(x, part);
+            Due.is("town() of '" + part + "' behind a longer one", x.town(), -11);
+            Due.is("fault() of '" + part + "'", x.fault(), part.length());
+        }
+        TomorrowBells x = Due.town("bc0 0;bc5 5;");
+        Due.feed(x, "bc0 0;");
+        Due.is("town() of the first clause alone", x.town(), 1);
     }
 
     private static void townBeginsAnew() {

@@ -33,6 +33,9 @@ public final class TriedTest {
         x.deaf(3, true);
         dueRule(x, 1, 40, 0);
         dueRule(x, 2, 0, 3);
+        TomorrowBells z = Due.town("by0 0;g10 0 1 6;g10 0 1 6;n0 1 0;s0 1 10;h0 90;");
+        z.yesterday(1);
+        dueRule(z, 2, 0, 1);
         TomorrowBells y = Due.town(TWO_TRUE_BELLS + "h0 0;");
         dueRule(y, 2, 0, 0);
         Due.is("rule(-1, 0)", y.rule(-1, 0), Due.OUTSIDE);
@@ -61,6 +64,7 @@ public final class TriedTest {
         Due.is("hush(-1, 0)", x.hush(-1, 0), Due.OUTSIDE);
         Due.is("hush(0, 2)", x.hush(0, 2), Due.OUTSIDE);
         Due.is("hush(0, -1)", x.hush(0, -1), Due.OUTSIDE);
+        dueHush(Due.town("bc0 0;" + "g9 0 0 6;".repeat(6) + "r0 0 9;"), 0, 6, 63);
         dueHush(Due.town("bc0 0;g9 0 6 0;r1 0 9;s1 1 1;g1 0 1 6;"), 1, Due.NONE, Due.NONE);
     }
 
@@ -146,10 +150,11 @@ public final class TriedTest {
         dueAnswers(y, 1, 990);
         y.live(0);
         dueAnswers(y, 0, 990);
-        Due.is("each first", first("by0 0;by1 0;by2 0;g1 0 1 6;g1 1 2 6;g1 2 2 6;r1 1 1;r2 2 1;", 1), 2);
+        Due.is("a lead with days that count", leadBehind("by0 0;by1 0;by2 0;g1 0 1 6;g1 1 2 6;g1 2 2 6;r1 1 1;r2 2 1;n5 3 1;", 1), 2);
+        Due.is("a lead", leadBehind("by0 0;by1 0;by2 0;g1 0 1 6;g1 1 2 6;g1 2 2 6;r1 1 1;r2 2 1;", 1), 2);
     }
 
-    private static int first(String text, int yesterday) {
+    private static int leadBehind(String text, int yesterday) {
         TomorrowBells x = Due.town(text);
         x.yesterday(yesterday);
         return x.answers(0);
