@@ -107,6 +107,7 @@ public final class TownTest {
         read("s0 0 0;", -12, 5);
         read("n0 12 11;n5 1 0;n0 2 5;", 0, -1);
         read("n0 0 0;", -12, 3);
+        read("n6 1 0;", -12, 1);
         read("n0 13 0;", -12, 3);
         read("n0 1 12;", -12, 5);
         read("h0 0;h1 99;", 0, -1);

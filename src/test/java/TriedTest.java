@@ -36,6 +36,10 @@ public final class TriedTest {
         TomorrowBells z = Due.town("by0 0;g10 0 1 6;g10 0 1 6;n0 1 0;s0 1 10;h0 90;");
         z.yesterday(1);
         dueRule(z, 2, 0, 1);
+        TomorrowBells all = Due.town("by0 0;g5 0 1 6;g5 0 1 6;n0 1 0;s0 1 10;h0 90;");
+        all.yesterday(1);
+        dueRule(all, 1, 40, 0);
+        dueRule(all, 2, 0, 3);
         TomorrowBells y = Due.town(TWO_TRUE_BELLS + "h0 0;");
         dueRule(y, 2, 0, 0);
         Due.is("rule(-1, 0)", y.rule(-1, 0), Due.OUTSIDE);
