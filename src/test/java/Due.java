@@ -7,6 +7,7 @@ final class Due {
     static final int FULL = TomorrowBells.FULL;
 
     private static int wrong = 0;
+    private static String sentence = "";
 
     private Due() {
     }
@@ -14,8 +15,14 @@ final class Due {
     static void is(String call, long got, long want) {
         if (got != want) {
             wrong++;
-            System.out.println(call + " answered " + got + ", due is " + want);
+            System.out.println(sentence + call + " answered " + got + ", due is " + want);
         }
+    }
+
+    /** The calls that follow try these words of the document; a fault among them is told with the words. */
+    static void says(int promise, String words) {
+        sentence = "promise " + promise + ", '" + words + "': ";
+        holds("to stand in the document", Doc.tries(promise, words));
     }
 
     static void holds(String what, boolean so) {
