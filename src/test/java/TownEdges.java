@@ -20,6 +20,7 @@ final class TownEdges {
         toldAgain();
         firstFault();
         town();
+        townBehindOthers();
         townBeginsAnew();
         townWithFault();
         fault();
@@ -371,6 +372,33 @@ final class TownEdges {
         for (int bells = 0; bells <= 5; bells++) {
             Due.feed(x, "bc0 0;".repeat(bells));
             Due.is("town() of " + bells, x.town(), bells);
+        }
+    }
+
+    /** Nothing of any earlier text is left, be it a town that stood or one that had a fault. */
+    private static void townBehindOthers() {
+        Due.says(3, "THE TEXT (it is empty then) becomes THE TOWN");
+        String fullest = "bk4 5;".repeat(5) + "g9 0 5 5;".repeat(6) + "r0 5 1;".repeat(8) + "s1 5 1;".repeat(4)
+            + "n2 1 0;".repeat(3) + "h0 0;h1 0;h2 0;h3 0;h4 0;h5 0;";
+        for (int faults = 0; faults < 2; faults++) {
+            TomorrowBells x = new TomorrowBells();
+            Due.feed(x, fullest + (faults == 0 ? "" : "x"));
+            x.town();
+            x.town();
+            Due.feed(x, "bc3 0;g2 0 1 6;r3 1 2;");
+            Due.is("town() behind a full one", x.town(), 1);
+            int[] due = {1, 1, 1, 0, 0, 0};
+            for (int what = 0; what < due.length; what++) {
+                Due.is("told(" + what + ")", x.told(what), due[what]);
+            }
+            Due.is("harm(63) untold", x.harm(63), 6);
+            Due.is("people of the bell", x.bell(0, 3), 2);
+            Due.is("what comes", x.comes(1), 8);
+            Due.is("what comes", x.comes(0), 0);
+            x.town();
+            for (int what = 0; what <= 5; what++) {
+                Due.is("behind the next: told(" + what + ")", x.told(what), 0);
+            }
         }
     }
 

@@ -24,6 +24,7 @@ final class TriedEdges {
         wire();
         answers();
         answersByTurns();
+        answersInOrder();
         send();
         sendNobody();
     }
@@ -90,6 +91,8 @@ final class TriedEdges {
         dueRule("more than there are", stoppers(10, 10), 6, 0, 1);
         dueRule("fewer are enough", stoppers(10, 5, 10, 5), 3, 0, 2);
         dueRule("one is too few", stoppers(10, 5, 5, 5), 1, 40, 0);
+        dueRule("one alone, behind sets that are too great", stoppers(10, 5, 5, 10), 1, 0, 4);
+        dueRule("the last alone", stoppers(10, 1, 1, 1, 1, 1, 10), 1, 0, 32);
         Due.says(20, "of like ones the fewest GROUPS,");
         dueRule("one of a greater number, not two", stoppers(10, 5, 5, 10), 2, 0, 4);
         dueRule("none, if nothing is won", stoppers(99, 5, 5, 10), 3, 40, 0);
@@ -247,6 +250,10 @@ final class TriedEdges {
         y.deaf(0, true);
         Due.is("it is deaf: by E", y.run(0, 4), 3);
         Due.is("it is deaf: not by D", y.run(0, 3), Due.NONE);
+        TomorrowBells hushed = Due.town("bc1 0;g1 0 3 3;g5 0 6 4;n1 1 0;s1 3 20;r0 4 5;");
+        Due.is("by a bell that is silent, as enough stop what it tells", hushed.run(0, 0), 19);
+        TomorrowBells full = Due.town("bc0 0;g1 0 0 0;" + "r0 0 100;".repeat(8) + "s5 0 1;".repeat(4));
+        Due.is("with all causes and stops there may be", full.run(0, 0), 99);
         TomorrowBells away = Due.town("bc0 0;bm1 0;g10 0 0 6;g8 1 0 0;r0 0 18;");
         Due.is("it could come", away.could(1), 1);
         Due.is("but the empty one must go", away.run(1, 0), 10);
@@ -381,8 +388,27 @@ final class TriedEdges {
         TomorrowBells lived = Due.town("n0 5 0;");
         lived.yesterday(2);
         dueAnswers("on day 0", lived, 1, 5);
-        lived.drift(60);
+        lived.drift(1);
+        dueAnswers("on day 1, behind what comes on day 0", lived, 0, 5);
+        lived.drift(59);
         dueAnswers("on day 60", lived, 0, 5);
+    }
+
+    /** What stands hangs on what came on which day: days go on in their order, beyond a turn too. */
+    private static void answersInOrder() {
+        Due.says(25, "LEAD: how many days go by till one stands as it stood");
+        String turnsOver = "by0 0;by2 0;g5 0 0 6;g5 1 0 6;r0 0 5;s0 0 10;n2 3 1;";
+        dueAnswers(turnsOver, 0, 0, 6);
+        dueAnswers(turnsOver, 4, 1, 6);
+        String endsOnce = "by0 0;by2 0;g5 0 0 6;g5 1 1 6;r0 0 5;s0 1 5;n2 5 3;";
+        dueAnswers(endsOnce, 1, 5, 5);
+        dueAnswers(endsOnce, 0, 0, 5);
+        dueAnswers(endsOnce, 4, 1, 5);
+        String endsByTurns = "by0 0;by1 0;by3 0;by4 0;by5 0;g5 0 0 1;g5 1 2 6;g5 2 1 6;g5 3 1 6;g5 4 1 6;"
+            + "r0 0 5;r1 2 5;s0 1 15;s1 1 20;n3 11 10;n4 10 9;n5 9 8;";
+        dueAnswers(endsByTurns, 3, 1981, 990);
+        dueAnswers(endsByTurns, 1, 991, 990);
+        dueAnswers(endsByTurns, 56, 0, 990);
     }
 
     private static void dueSend(String name, TomorrowBells x, int n, int... due) {
