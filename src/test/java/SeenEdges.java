@@ -201,8 +201,6 @@ final class SeenEdges {
         Due.is("a new object's", new TomorrowBells().tear(), 0);
         TomorrowBells y = States.make("lived");
         Due.is("two were seen", y.tear(), 2);
-        TomorrowBells z = States.make("lived");
-        z.tear();
         Due.is("days stay", y.told(6), 3);
         Due.is("THE SEED stays", y.seed(1), 77);
         Due.is("an image stays", y.goBack(1), 1);
