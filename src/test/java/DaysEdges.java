@@ -227,6 +227,9 @@ final class DaysEdges {
         Due.is("it is lived", y.live(0), 13);
         TomorrowBells z = Due.town(FALSE + "s0 0 10;");
         Due.is("what is stopped then fits", z.told(12), 1);
+        TomorrowBells stops = Due.town(FALSE + "r1 0 10;s1 0 10;n2 1 0;s2 0 10;");
+        Due.is("none fits", stops.told(12), 0);
+        Due.is("what is stopped by no ring does not come", stops.could(0), 1);
         Due.is("the muffled bell is silent too", Due.town("bm0 0;g10 0 0 6;r0 0 10;").could(0), 0);
     }
 
@@ -331,6 +334,12 @@ final class DaysEdges {
         Due.is("undo(61) of 60", x.undo(61), Due.OUTSIDE);
         Due.is("undo(60) of 60", x.undo(60), 0);
         Due.is("HARM", x.told(8), 0);
+        TomorrowBells less = Due.town("n0 1 0;h0 0;");
+        less.drift(3);
+        less.undo(1);
+        Due.is("HARM below nothing is undone too", less.told(8), -100);
+        less.undo(2);
+        Due.is("HARM below nothing, all undone", less.told(8), 0);
         TomorrowBells y = Due.town("n0 3 2;");
         y.drift(3);
         Due.is("undone days come again by their number", y.undo(1), 2);
@@ -419,6 +428,9 @@ final class DaysEdges {
         Due.is("YESTERDAY", x.told(7), 1);
         Due.is("drift(60)", Due.town("n0 1 0;h0 0;").drift(60), -3000);
         Due.is("drift(60), each second day", Due.town("n0 2 1;").drift(60), 30);
+        TomorrowBells turns = Due.town("by0 0;g10 0 6 0;r0 0 10;");
+        Due.is("drift(5): each day by the one before, 1 0 1 0 1", turns.drift(5), 3);
+        Due.is("YESTERDAY", turns.told(7), 1);
         Due.says(19, "OUTSIDE, FULL: more than 60 days then.");
         Due.is("drift(0)", x.drift(0), Due.OUTSIDE);
         Due.is("drift(-1)", x.drift(-1), Due.OUTSIDE);

@@ -12,6 +12,9 @@ public final class EdgesTest {
         TriedEdges.check();
         SeenEdges.check();
         RefusedEdges.check();
+        HeedEdges.check();
+        ChangeEdges.check();
+        LastCallEdges.check();
         String untried = Doc.untried();
         Due.holds("nothing of the document is left untried, but\n" + untried, untried.isEmpty());
         Due.end();

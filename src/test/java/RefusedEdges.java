@@ -164,6 +164,7 @@ final class RefusedEdges {
             refused(27, "UNKNOWN, OUTSIDE, FULL (12).", "lived", "see day " + day, x -> x.see(2, true, 0, day), Due.OUTSIDE);
         }
         refused(27, "UNKNOWN, OUTSIDE, FULL (12).", "full", "see(0, ..)", x -> x.see(0, true, 0, 0), Due.FULL);
+        refused(27, "UNKNOWN, OUTSIDE, FULL (12).", "full", "see(0, ..), against all", x -> x.see(0, true, 0, 1), Due.FULL);
         for (int v : new int[] {-1, LEAST}) {
             everywhere(31, "OUTSIDE.", "seed(" + v + ")", x -> x.seed(v), Due.OUTSIDE);
         }

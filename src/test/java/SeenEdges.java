@@ -17,6 +17,7 @@ final class SeenEdges {
         means();
         everySignIsTold();
         meansBySeen();
+        eachOfTwelveCounts();
         watch();
         tear();
         seed();
@@ -112,6 +113,23 @@ final class SeenEdges {
         }
     }
 
+    /** Silent on an empty day behind an empty one: all but the muffled. Ringing for 0 alone then leaves c0 and k0 with another. */
+    private static void eachOfTwelveCounts() {
+        Due.says(28, "by which all SEEN of it is so:");
+        for (int telling = 0; telling < 12; telling++) {
+            TomorrowBells x = Due.town("bc0 0;bc0 0;");
+            for (int i = 0; i < 12; i++) {
+                x.see(1, i == telling, 0, i == telling ? 1 : 0);
+            }
+            Due.is("number " + telling + " tells", x.means(1, Due.NONE), 6);
+            Due.is("the first left", x.means(1, 0), 0);
+            Due.is("the last left", x.means(1, 5), 305);
+            Due.is("refused, one more", x.see(1, false, 0, 1), Due.FULL);
+            Due.is("number " + telling + " tells still", x.means(1, Due.NONE), 6);
+            Due.is("of the other bell nothing is known", x.means(0, Due.NONE), 48);
+        }
+    }
+
     private static void meansBySeen() {
         Due.says(28, "by which all SEEN of it is so:");
         TomorrowBells x = Due.town("bc0 0;bc0 0;");
@@ -173,6 +191,10 @@ final class SeenEdges {
         dueWatch(Due.NONE, 6, notForNone, new int[] {0, 0, 63});
         dueWatch(Due.NONE, 1, new int[] {0, 63, 62}, new int[] {0, 63, 61}, ringsForAll);
         dueWatch(Due.NONE, 0, notForNone, new int[] {1, 0, 0});
+        TomorrowBells other = Due.town("bc0 0;bc0 0;");
+        other.see(1, true, 0, 0);
+        Due.is("by what was seen of the bell itself", other.watch(1), 7);
+        Due.is("of another bell nothing was seen", other.watch(0), 15);
         Due.says(29, "UNKNOWN.");
         TomorrowBells x = Due.town("bc0 0;");
         Due.is("watch(1)", x.watch(1), Due.UNKNOWN);
@@ -330,6 +352,12 @@ final class SeenEdges {
         Due.is("their harm", full.told(8), harm);
         Due.is("they can be undone", full.undo(60), 0);
         Due.is("to no harm", full.told(8), 0);
+        full.keep(1);
+        full.drift(60);
+        full.goBack(1);
+        Due.is("from sixty days back to none", full.told(6), 0);
+        Due.is("no harm then", full.told(8), 0);
+        Due.is("and on from there", full.live(3), 3);
     }
 
     private static void whatImagesLeave() {

@@ -123,6 +123,10 @@ final class TriedEdges {
         dueRule("the greatest harm there is", Due.town(all + "h0 99;h1 99;h2 99;h3 99;h4 99;h5 99;"), 6, 294, 0);
         dueRule("below nothing", Due.town("n0 1 0;h0 49;"), 3, -1, 0);
         dueRule("a silent one counts too", Due.town(FALSE + "h0 70;"), 1, 20, 0);
+        // What a muffled bell is silent on is done: harms 0, 10, -10, 0 could come, whoever may act.
+        TomorrowBells four = Due.town("bm0 0;bm1 0;g1 0 6 0;g1 1 6 1;r0 0 1;r1 1 1;h0 60;h1 40;");
+        Due.is("four could come", four.could(Due.NONE), 4);
+        dueRule("the greatest, not the last or all together", four, 2, 10, 0);
         TomorrowBells good = Due.town("by0 0;g9 0 1 6;r1 1 9;h1 20;");
         good.yesterday(1);
         dueRule("what is good may be caused", good, 1, -30, 1);
@@ -222,6 +226,7 @@ final class TriedEdges {
         Due.is("stopped as soon", Due.town(one + "r0 3 10;s0 3 10;").run(0, 0), Due.NONE);
         Due.is("stopped sooner", Due.town(one + "r0 3 10;s0 3 9;").run(0, 0), Due.NONE);
         Due.is("stopped one later", Due.town(one + "r0 3 10;s0 3 11;").run(0, 0), 9);
+        Due.is("no more in another group, who would stop it", Due.town(one + "g1 0 4 4;r0 3 10;s0 4 5;").run(0, 0), 9);
         Due.says(22, "UNKNOWN, OUTSIDE (h).");
         TomorrowBells x = Due.town(one);
         Due.is("run(1, 0)", x.run(1, 0), Due.UNKNOWN);
@@ -428,9 +433,11 @@ final class TriedEdges {
         TomorrowBells upper = Due.town(FIVE_TRUE + "n5 1 0;");
         dueSend("one comes twice as often", upper, 7, 1, 1, 1, 1, 1, 2);
         dueSend("the silent one", Due.town(FALSE), 5, 5, 0, 0, 0, 0, 0);
+        dueSend("nobody for the empty day", runners(10, 10), 7, 7, 0, 0, 0, 0, 0);
         Due.says(26, "; who is left goes one by one to those with the greatest rest");
         dueSend("greatest rest at the last", upper, 1, 0, 0, 0, 0, 0, 1);
         dueSend("greatest rest at the last", upper, 99, 14, 14, 14, 14, 14, 29);
+        dueSend("greatest rest is not where it comes most", upper, 4, 1, 1, 1, 0, 0, 1);
         Due.says(26, "(of like ones the least H).");
         dueSend("one, then the first ones", upper, 3, 1, 1, 0, 0, 0, 1);
         TomorrowBells five = Due.town(FIVE_TRUE);
