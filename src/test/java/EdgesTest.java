@@ -15,6 +15,7 @@ public final class EdgesTest {
         HeedEdges.check();
         ChangeEdges.check();
         LastCallEdges.check();
+        EveryEdges.check();
         String untried = Doc.untried();
         Due.holds("nothing of the document is left untried, but\n" + untried, untried.isEmpty());
         Due.end();

@@ -1,11 +1,5 @@
 /** The edges of promises 27 to 33. */
 final class SeenEdges {
-    private static final int[] ALL_SIGNS = {
-        0, 10, 20, 30, 40, 50, 100, 110, 120, 130, 140, 150,
-        201, 202, 203, 204, 205, 212, 213, 214, 215, 223, 224, 225, 234, 235, 245,
-        301, 302, 303, 304, 305, 312, 313, 314, 315, 323, 324, 325, 334, 335, 345,
-        400, 410, 420, 430, 440, 450
-    };
     private static final int[] FAR = {-2, 48, 49, Integer.MIN_VALUE, Integer.MAX_VALUE};
     private static final String TWO_TRUE = "bc0 0;bc1 0;g10 0 0 6;g10 1 1 6;r0 0 10;r1 1 10;h0 52;h1 60;";
 
@@ -63,7 +57,7 @@ final class SeenEdges {
         TomorrowBells x = Due.town("by5 5;");
         Due.is("how many", x.means(0, Due.NONE), 48);
         for (int i = 0; i < 48; i++) {
-            Due.is("means(0, " + i + ")", x.means(0, i), ALL_SIGNS[i]);
+            Due.is("means(0, " + i + ")", x.means(0, i), Signs.ALL[i]);
         }
         for (int i : FAR) {
             Due.is("means(0, " + i + ")", x.means(0, i), Due.NONE);
@@ -79,31 +73,19 @@ final class SeenEdges {
         Due.is("means(-1, NONE)", x.means(-1, Due.NONE), Due.UNKNOWN);
     }
 
-    private static boolean rings(int sign, int before, int day) {
-        boolean h = (day >> sign / 10 % 10 & 1) == 1;
-        boolean j = (day >> sign % 10 & 1) == 1;
-        switch (sign / 100) {
-            case 0: return h;
-            case 1: return !h;
-            case 2: return h && j;
-            case 3: return h || j;
-            default: return (before >> sign / 10 % 10 & 1) == 1;
-        }
-    }
-
     /** Days of one happening alone and of all but one, behind shifted ones, leave a single sign: each of the 48 in turn. */
     private static void everySignIsTold() {
         Due.says(28, "by which all SEEN of it is so:");
         Due.says(28, "whether it rang, YESTERDAY, the DAY.");
-        for (int sign : ALL_SIGNS) {
+        for (int sign : Signs.ALL) {
             TomorrowBells x = Due.town("bk4 5;");
             for (int h = 0; h < 6; h++) {
                 int alone = 1 << h;
                 int behindAlone = 1 << (h + 1) % 6;
                 int without = 63 - alone;
                 int behindWithout = 1 << (h + 2) % 6;
-                x.see(0, rings(sign, behindAlone, alone), behindAlone, alone);
-                x.see(0, rings(sign, behindWithout, without), behindWithout, without);
+                x.see(0, Signs.rings(sign, behindAlone, alone), behindAlone, alone);
+                x.see(0, Signs.rings(sign, behindWithout, without), behindWithout, without);
             }
             Due.is("twelve are seen", x.bell(0, 4), 12);
             Due.is("how many are left", x.means(0, Due.NONE), 1);
@@ -186,6 +168,8 @@ final class SeenEdges {
         dueWatch(3, 7, new int[] {1, 1, 0});
         dueWatch(0, 2, new int[] {1, 1, 0}, new int[] {0, 0, 1});
         dueWatch(48, 2, new int[] {1, 1, 48}, new int[] {0, 0, 16}, new int[] {0, 0, 32});
+        dueWatch(30, 16, new int[] {1, 0, 33});
+        dueWatch(62, 21, new int[] {0, 0, 1}, new int[] {0, 0, 56});
         Due.says(29, "WATCH; NONE.");
         Due.says(29, "NONE: none parts them.");
         dueWatch(Due.NONE, 6, notForNone, new int[] {0, 0, 63});
